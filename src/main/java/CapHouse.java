@@ -427,7 +427,6 @@ public final class CapHouse {
         return within(step, 0, WALK_SIGNS.length() - 1) ? WALK_SIGNS.charAt(step) : NONE;
     }
 
-    /** The signs that were said. */
     private static final class Pad {
         final char[] signs = new char[MOST_SIGNS];
         int length;
@@ -684,7 +683,7 @@ public final class CapHouse {
             int front = bit(cell);
             int sight = front;
             for (int i = 1; i < MOST_SIDE; i++) {
-                front = stepTo(front, looking);
+                front = moved(front, looking) & ~walls;
                 sight |= front;
             }
             return sight;
@@ -721,7 +720,6 @@ public final class CapHouse {
         }
     }
 
-    /** A house as it was kept. */
     private static final class Image {
         final House house = new House();
         boolean kept;
@@ -748,7 +746,7 @@ public final class CapHouse {
             }
         }
 
-        /** Takes a step; false, and it stays, if the step can not be. */
+        /** False if the step can not be: then it stays, which moves no grass and no board. */
         boolean take(House house, int step) {
             int next = house.stepTo(here, step);
             stepped = next != 0 && step != STAYING;
@@ -785,7 +783,6 @@ public final class CapHouse {
         }
     }
 
-    /** What is judged of the walk on the pad. */
     private static final class Verdict {
         int blocked;
         int firstMinute;
@@ -936,7 +933,7 @@ public final class CapHouse {
             return NONE;
         }
 
-        /** Adds so many cells below a limit: by their highest first, so that sets come in order of their bits. */
+        /** Chooses the highest cell first, the least of those first, so that sets come in the order of their bits. */
         private static int firstCut(House house, int chosen, int limit, int left) {
             if (left <= 0) {
                 return isCut(house, chosen) ? chosen : NONE;
