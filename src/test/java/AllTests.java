@@ -6,6 +6,9 @@ public final class AllTests {
         WalkTests.run(checks);
         WayTests.run(checks);
         ChanceTests.run(checks);
+        LimitTests.run(checks);
+        WayLimitTests.run(checks);
+        RefusalTests.run(checks);
         RandomRuns.run(checks);
         RuleTests.run(checks);
         System.out.println(checks.passed() + " passed, " + checks.failed() + " failed");
