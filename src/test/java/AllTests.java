@@ -11,6 +11,7 @@ public final class AllTests {
         RefusalTests.run(checks);
         RandomRuns.run(checks);
         RuleTests.run(checks);
+        ReadmeTests.run(checks);
         System.out.println(checks.passed() + " passed, " + checks.failed() + " failed");
         if (checks.failed() != 0 || checks.passed() == 0) {
             System.exit(1);
